@@ -261,19 +261,14 @@ public final class BeamDrawer {
     }
 
     private void draw(int x) {
-        int here = objectsAt(x);
-        colours[x] = colourAt(x, here);
-        keepMeetings(here);
-    }
-
-    private int objectsAt(int x) {
         int here = 0;
         for (int object = 0; object < OBJECTS; object++) {
             if (isAt(object, x)) {
                 here |= 1 << object;
             }
         }
-        return here;
+        colours[x] = colourAt(x, here);
+        keepMeetings(here);
     }
 
     private int colourAt(int x, int here) {
@@ -332,7 +327,8 @@ public final class BeamDrawer {
 
     private boolean isPlayerAt(int side, int x) {
         int shape = hasBit(SHOWS_OLD_SHAPE + side, 1) ? oldShapes[side] : registers[SHAPE + side];
-        int fromLeft = behindCopy(side, behindPlace(side, x)) >> STRETCH[copiesOf(side)];
+        int copies = copiesOf(side);
+        int fromLeft = behindCopy(copies, behindPlace(side, x)) >> STRETCH[copies];
         if (fromLeft > 7) {
             return false;
         }
@@ -344,7 +340,7 @@ public final class BeamDrawer {
         if (!hasBit(MISSILE_SWITCH + side, SWITCH_BIT) || hasBit(LOCK + side, SWITCH_BIT)) {
             return false;
         }
-        return behindCopy(side, behindPlace(MISSILE + side, x)) < widthIn(COPIES + side);
+        return behindCopy(copiesOf(side), behindPlace(MISSILE + side, x)) < widthIn(COPIES + side);
     }
 
     private boolean isBallAt(int x) {
@@ -383,8 +379,7 @@ public final class BeamDrawer {
     }
 
     /** How far behind the start of its copy a pixel is; PIXELS, which no copy reaches, if there is none. */
-    private int behindCopy(int side, int behind) {
-        int copies = copiesOf(side);
+    private static int behindCopy(int copies, int behind) {
         // A stretched player may be wider than the 16 pixels from one start to the next.
         if (STRETCH[copies] > 0) {
             return behind;

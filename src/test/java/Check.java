@@ -87,6 +87,7 @@ final class Check {
         }
     }
 
+    /** All answers in one text: more than 512 calls, which this program, keeping no count of them, bears. */
     static String look(BeamDrawer x) {
         StringBuilder all = new StringBuilder();
         for (int what = 0; what < 6; what++) {

@@ -36,14 +36,10 @@ public final class NewObjectTest {
     }
 
     private static void objectsShareNothing(Check check) {
+        String before = Check.look(new BeamDrawer());
         BeamDrawer first = Check.written(0, 7, 5, 255, 9, 255, 28, 0);
+        first.set(0, 9);
         first.clocks(100);
-        check.due("a second object's look is a new one's",
-                Check.look(new BeamDrawer()).equals(Check.look(new BeamDrawer())), true);
-        BeamDrawer second = new BeamDrawer();
-        check.due("a second object's clock", second.count(0), 0);
-        check.due("a second object's player 0", second.place(0), 0);
-        check.due("a second object's playfield", second.there(5, 0), false);
-        check.due("a second object's pixel", second.pixel(0), 0);
+        check.due("a second object is a new one", Check.look(new BeamDrawer()).equals(before), true);
     }
 }

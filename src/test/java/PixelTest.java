@@ -40,7 +40,7 @@ public final class PixelTest {
 
     private static void whoHidesWhom() {
         for (int objects = 0; objects < 64; objects++) {
-            for (int control = 0; control < 8; control += 2) {
+            for (int control = 0; control < 8; control++) {
                 int due = colourDue(objects, (control & 2) != 0, (control & 4) != 0);
                 CHECK.due("pixel(0) with objects " + objects + ", register 8 " + control,
                         drawn(objects, control).pixel(0), due);
