@@ -1,12 +1,13 @@
 import java.util.NoSuchElementException;
 
-/** What the tests share: comparing answers, and a look at all that an object answers. */
+/** What the tests share: comparing answers. */
 final class Check {
     static final long NO_SUCH = -1001;
     static final long ILLEGAL = -1002;
+    static final int[] FAR_OUT = {Integer.MIN_VALUE, -1000, 1_000_000, Integer.MAX_VALUE};
 
-    interface Call {
-        long answer();
+    interface Question {
+        long of(Face x);
     }
 
     private int wrong;
@@ -22,14 +23,36 @@ final class Check {
         due(what, got ? 1 : 0, want ? 1 : 0);
     }
 
-    /** A call that must throw, and change nothing that can be seen. */
-    void refused(BeamDrawer x, String what, Call call, long want) {
-        String before = look(x);
-        due(what, outcome(call), want);
-        if (!before.equals(look(x))) {
+    void due(String what, String got, String want) {
+        if (!got.equals(want)) {
+            wrong++;
+            System.out.println(what + ": [" + got + "], due is [" + want + "]");
+        }
+    }
+
+    void isWhere(String what, Face x, int object, String want) {
+        due(what + ": object " + object + " is at", Look.where(x, object), want);
+    }
+
+    /** A call that must throw, on a new object and on one where much has been done, and change nothing. */
+    void refused(String what, Question call, long want) {
+        refused(new Beam(), what + " on a new object", call, want);
+        refused(inUse(), what + " on one in use", call, want);
+    }
+
+    private void refused(Beam x, String what, Question call, long want) {
+        String before = Look.ahead(x);
+        due(what, outcome(x, call), want);
+        if (!before.equals(Look.ahead(x))) {
             wrong++;
             System.out.println(what + " changed the object");
         }
+    }
+
+    /** Calls just inside their bounds, which must not throw. */
+    void taken(String what, Question call) {
+        long outcome = outcome(new Beam(), call);
+        due(what + " is refused", outcome == NO_SUCH || outcome == ILLEGAL, false);
     }
 
     void end() {
@@ -39,9 +62,9 @@ final class Check {
         }
     }
 
-    static long outcome(Call call) {
+    static long outcome(Face x, Question call) {
         try {
-            return call.answer();
+            return call.of(x);
         } catch (NoSuchElementException e) {
             return NO_SUCH;
         } catch (IllegalArgumentException e) {
@@ -49,59 +72,15 @@ final class Check {
         }
     }
 
-    static BeamDrawer written(int... registersAndValues) {
-        BeamDrawer x = new BeamDrawer();
-        write(x, registersAndValues);
+    /** All of it is written, old ones differ from new ones, one missile is locked, and a cycle is under way. */
+    static Beam inUse() {
+        Beam x = Beam.written(0, 10, 1, 20, 2, 30, 3, 40, 5, 0x50, 6, 0x5A, 7, 0xC3, 9, 0xB1, 10, 0x6E, 13, 2);
+        x.put(0, 40).put(2, 42).put(1, 70).put(3, 90).put(4, 157);
+        x.writes(9, 0x1D, 10, 0xF3, 13, 0, 8, 0x31, 17, 0x25, 18, 0x13, 15, 8, 19, 2, 20, 2, 21, 2);
+        x.writes(23, 0x70, 24, 0x80, 25, 0x30, 26, 0xF0, 27, 0xA0);
+        x.sync();
+        x.set(1, 2);
+        x.clocks(160);
         return x;
-    }
-
-    static void write(BeamDrawer x, int... registersAndValues) {
-        for (int i = 0; i < registersAndValues.length; i += 2) {
-            x.write(registersAndValues[i], registersAndValues[i + 1]);
-        }
-    }
-
-    /** Where an object is, as ranges: "3-4 19". */
-    static String where(BeamDrawer x, int object) {
-        StringBuilder ranges = new StringBuilder();
-        for (int start = 0; start < 160; start++) {
-            if (!x.there(object, start)) {
-                continue;
-            }
-            int end = start;
-            while (end < 159 && x.there(object, end + 1)) {
-                end++;
-            }
-            ranges.append(ranges.length() == 0 ? "" : " ").append(start);
-            ranges.append(end == start ? "" : "-" + end);
-            start = end;
-        }
-        return ranges.toString();
-    }
-
-    void isWhere(String what, BeamDrawer x, int object, String want) {
-        String got = where(x, object);
-        if (!got.equals(want)) {
-            wrong++;
-            System.out.println(what + ": object " + object + " is at [" + got + "], due is [" + want + "]");
-        }
-    }
-
-    /** All answers in one text: more than 512 calls, which this program, keeping no count of them, bears. */
-    static String look(BeamDrawer x) {
-        StringBuilder all = new StringBuilder();
-        for (int what = 0; what < 6; what++) {
-            all.append(x.count(what)).append(' ');
-        }
-        for (int object = 0; object < 6; object++) {
-            all.append(object < 5 ? x.place(object) : 0).append(':').append(where(x, object)).append('/');
-            for (int other = 0; other < 6; other++) {
-                all.append(other != object && x.met(object, other) ? '1' : '0');
-            }
-        }
-        for (int pixel = 0; pixel < 160; pixel++) {
-            all.append(' ').append(x.pixel(pixel));
-        }
-        return all.toString();
     }
 }

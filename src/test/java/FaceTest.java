@@ -29,6 +29,12 @@ public final class FaceTest {
         check.due("the face", got.equals(due), true);
         int modifiers = BeamDrawer.class.getModifiers();
         check.due("public and final", Modifier.isPublic(modifiers) && Modifier.isFinal(modifiers), true);
+        check.due("private methods with a public one's name", sharedNames().size(), 0);
+        for (Class<?> inside : BeamDrawer.class.getDeclaredClasses()) {
+            int of = inside.getModifiers();
+            check.due(inside + " is private or package-visible, and static",
+                    Modifier.isStatic(of) && !Modifier.isPublic(of) && !Modifier.isProtected(of), true);
+        }
         check.end();
     }
 
@@ -50,5 +56,15 @@ public final class FaceTest {
             }
         }
         return seen;
+    }
+
+    private static TreeSet<String> sharedNames() {
+        TreeSet<String> open = new TreeSet<>();
+        TreeSet<String> hidden = new TreeSet<>();
+        for (Method method : BeamDrawer.class.getDeclaredMethods()) {
+            (Modifier.isPublic(method.getModifiers()) ? open : hidden).add(method.getName());
+        }
+        hidden.retainAll(open);
+        return hidden;
     }
 }

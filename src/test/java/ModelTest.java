@@ -1,39 +1,46 @@
 import java.util.Random;
 
-/** All promises: mixed runs of 512 calls, wrong ones among them, beside a second reading of the document. */
+/** All promises: mixed runs, wrong calls among them, beside a second reading of the document. */
 public final class ModelTest {
-    private static final int RUNS = 60;
-    private static final int CALLS = 512;
+    private static final int LONG_RUNS = 60;
+    private static final int SHORT_RUNS = 60;
+    // Short enough for questions about every pixel behind it.
+    private static final int SHORT = 150;
+    private static final Check CHECK = new Check();
 
-    private final Check check;
     private final Random random;
     private final int run;
-    private final BeamDrawer beam = new BeamDrawer();
+    private final Beam beam = new Beam();
     private final SlowBeam slow = new SlowBeam();
 
-    private ModelTest(Check check, int run) {
-        this.check = check;
+    private ModelTest(int run) {
         this.run = run;
         this.random = new Random(run);
     }
 
     public static void main(String[] args) {
-        Check check = new Check();
-        for (int run = 0; run < RUNS; run++) {
-            ModelTest test = new ModelTest(check, run);
-            for (int call = 0; call < CALLS; call++) {
-                test.oneCall();
-            }
-            test.lookAtAll();
+        for (int run = 0; run < LONG_RUNS; run++) {
+            new ModelTest(run).calls(Beam.MOST_CALLS);
         }
-        check.end();
+        for (int run = LONG_RUNS; run < LONG_RUNS + SHORT_RUNS; run++) {
+            ModelTest test = new ModelTest(run);
+            test.calls(SHORT);
+            CHECK.due("run " + run + ", at its end", Look.now(test.beam), Look.now(test.slow));
+        }
+        CHECK.end();
+    }
+
+    private void calls(int number) {
+        for (int call = 0; call < number; call++) {
+            oneCall();
+        }
     }
 
     private int mostly(int bound) {
         return random.nextInt(40) == 0 ? (random.nextBoolean() ? -1 : bound) : random.nextInt(bound);
     }
 
-    private int clocks() {
+    private int someClocks() {
         switch (random.nextInt(20)) {
             case 0:
                 return mostly(2001);
@@ -44,7 +51,7 @@ public final class ModelTest {
         }
     }
 
-    private int value() {
+    private int someValue() {
         return random.nextInt(3) == 0 ? mostly(256) : random.nextInt(256) & random.nextInt(256);
     }
 
@@ -53,14 +60,16 @@ public final class ModelTest {
             case 0:
             case 1:
             case 2:
-                int n = clocks();
-                same("clocks(" + n + ")", () -> beam.clocks(n), () -> slow.clocks(n));
+                int n = someClocks();
+                same("clocks(" + n + ")", x -> x.clocks(n));
                 break;
             case 3:
-                same("sync()", () -> beam.sync(), () -> slow.sync());
+                same("sync()", x -> x.sync());
                 break;
             case 4:
-                timerCall();
+                int interval = mostly(4);
+                int start = random.nextInt(4) == 0 ? mostly(256) : random.nextInt(4);
+                same("set(" + interval + ", " + start + ")", x -> x.set(interval, start));
                 break;
             case 5:
             case 6:
@@ -68,66 +77,42 @@ public final class ModelTest {
                 question(random.nextInt(5));
                 break;
             default:
-                int register = mostly(36);
-                int v = value();
-                same("write(" + register + ", " + v + ")", () -> {
-                    beam.write(register, v);
-                    return 0;
-                }, () -> {
-                    slow.write(register, v);
-                    return 0;
-                });
+                write(mostly(36), someValue());
                 break;
         }
     }
 
-    private void timerCall() {
-        int interval = mostly(4);
-        int v = random.nextInt(4) == 0 ? mostly(256) : random.nextInt(4);
-        same("set(" + interval + ", " + v + ")", () -> beam.set(interval, v), () -> slow.set(interval, v));
+    private void write(int register, int v) {
+        same("write(" + register + ", " + v + ")", x -> {
+            x.write(register, v);
+            return 0;
+        });
     }
 
     private void question(int kind) {
         int a = mostly(6);
         int b = mostly(6);
-        int x = mostly(160);
+        int at = mostly(160);
         switch (kind) {
             case 0:
-                same("pixel(" + x + ")", () -> beam.pixel(x), () -> slow.pixel(x));
+                same("pixel(" + at + ")", x -> x.pixel(at));
                 break;
             case 1:
-                same("met(" + a + ", " + b + ")", () -> beam.met(a, b) ? 1 : 0, () -> slow.met(a, b) ? 1 : 0);
+                same("met(" + a + ", " + b + ")", x -> x.met(a, b) ? 1 : 0);
                 break;
             case 2:
-                same("place(" + a + ")", () -> beam.place(a), () -> slow.place(a));
+                same("place(" + a + ")", x -> x.place(a));
                 break;
             case 3:
-                same("there(" + a + ", " + x + ")", () -> beam.there(a, x) ? 1 : 0, () -> slow.there(a, x) ? 1 : 0);
+                same("there(" + a + ", " + at + ")", x -> x.there(a, at) ? 1 : 0);
                 break;
             default:
-                same("count(" + a + ")", () -> beam.count(a), () -> slow.count(a));
+                same("count(" + a + ")", x -> x.count(a));
                 break;
         }
     }
 
-    private void lookAtAll() {
-        for (int i = 0; i < 160; i++) {
-            int x = i;
-            same("pixel(" + x + ") at the end", () -> beam.pixel(x), () -> slow.pixel(x));
-            for (int j = 0; j < 6; j++) {
-                int object = j;
-                same("there(" + object + ", " + x + ") at the end",
-                        () -> beam.there(object, x) ? 1 : 0, () -> slow.there(object, x) ? 1 : 0);
-            }
-        }
-        for (int i = 0; i < 6; i++) {
-            int what = i;
-            same("count(" + what + ") at the end", () -> beam.count(what), () -> slow.count(what));
-            same("place(" + what + ") at the end", () -> beam.place(what), () -> slow.place(what));
-        }
-    }
-
-    private void same(String what, Check.Call got, Check.Call due) {
-        check.due("run " + run + ": " + what, Check.outcome(got), Check.outcome(due));
+    private void same(String what, Check.Question call) {
+        CHECK.due("run " + run + ": " + what, Check.outcome(beam, call), Check.outcome(slow, call));
     }
 }

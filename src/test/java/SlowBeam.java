@@ -4,7 +4,7 @@ import java.util.Set;
 import java.util.TreeSet;
 
 /** A second reading of the document, for comparison: it lists the pixels of every object anew at each clock. */
-final class SlowBeam {
+final class SlowBeam implements Face {
     private static final int[][] MORE = {{}, {16}, {32}, {16, 32}, {64}, {}, {32, 64}, {}};
     private static final int[] WIDE = {1, 1, 1, 1, 1, 2, 1, 4};
 
@@ -24,7 +24,8 @@ final class SlowBeam {
     private int interval = 1024;
     private long sinceLess;
 
-    void write(int register, int v) {
+    @Override
+    public void write(int register, int v) {
         if (register < 0 || register > 35) {
             throw new NoSuchElementException();
         }
@@ -73,7 +74,8 @@ final class SlowBeam {
         return (int) (clocksInAll % 228);
     }
 
-    int clocks(int n) {
+    @Override
+    public int clocks(int n) {
         if (n < 0 || n > 2000) {
             throw new IllegalArgumentException();
         }
@@ -83,7 +85,8 @@ final class SlowBeam {
         return clock();
     }
 
-    int sync() {
+    @Override
+    public int sync() {
         int n = 0;
         do {
             oneClock();
@@ -138,22 +141,26 @@ final class SlowBeam {
         return (written[4] & 1) == 1 ? 0 : colour;
     }
 
-    int pixel(int x) {
+    @Override
+    public int pixel(int x) {
         needs(x >= 0 && x < 160);
         return screen[x];
     }
 
-    boolean met(int a, int b) {
+    @Override
+    public boolean met(int a, int b) {
         needs(a >= 0 && a < 6 && b >= 0 && b < 6 && a != b);
         return meetings.contains(Math.min(a, b) + " " + Math.max(a, b));
     }
 
-    int place(int object) {
+    @Override
+    public int place(int object) {
         needs(object >= 0 && object < 5);
         return place[object];
     }
 
-    boolean there(int object, int x) {
+    @Override
+    public boolean there(int object, int x) {
         needs(object >= 0 && object < 6 && x >= 0 && x < 160);
         switch (object) {
             case 0:
@@ -228,7 +235,8 @@ final class SlowBeam {
         return (left + right).charAt(x / 4) == '1';
     }
 
-    int set(int which, int v) {
+    @Override
+    public int set(int which, int v) {
         needs(which >= 0 && which < 4);
         if (v < 0 || v > 255) {
             throw new IllegalArgumentException();
@@ -241,9 +249,16 @@ final class SlowBeam {
         return was;
     }
 
-    int count(int what) {
+    @Override
+    public int count(int what) {
         needs(what >= 0 && what < 6);
         return new int[] {clock(), (int) (clocksInAll / 228), value, rung ? 1 : 0, meetings.size(), pixels}[what];
+    }
+
+    @Override
+    public SlowBeam again() {
+        // Asking changes nothing here, and this one counts no calls.
+        return this;
     }
 
     private static void needs(boolean such) {
