@@ -9,8 +9,10 @@ public final class CallsTest {
         theLastCallOfEachKind();
         theLastCallIsRefused();
         refusedCallsOnly();
-        questionsOnly();
+        oneQuestionOnly();
+        syncsOnly();
         writesOnly();
+        setsOnly();
         CHECK.end();
     }
 
@@ -105,13 +107,26 @@ public final class CallsTest {
         }
     }
 
-    private static void questionsOnly() {
+    private static void oneQuestionOnly() {
+        oneQuestion("pixel(40)", y -> y.pixel(40), 30);
+        oneQuestion("met(0, 5)", y -> y.met(0, 5) ? 1 : 0, 1);
+        oneQuestion("place(4)", y -> y.place(4), 157);
+        oneQuestion("there(1, 71)", y -> y.there(1, 71) ? 1 : 0, 1);
+        oneQuestion("count(0)", y -> y.count(0), 160);
+    }
+
+    private static void oneQuestion(String what, Check.Question call, long due) {
         Beam x = Check.inUse();
-        int place = x.place(4);
-        while (x.calls() < BEFORE_THE_LAST) {
-            x.there(x.calls() % 6, x.calls() % 160);
+        while (x.calls() < Beam.MOST_CALLS) {
+            CHECK.due(what + ", call " + x.calls(), call.of(x), due);
         }
-        CHECK.due("place(4) behind questions alone", x.place(4), place);
+    }
+
+    private static void syncsOnly() {
+        Beam x = new Beam();
+        while (x.calls() < Beam.MOST_CALLS) {
+            CHECK.due("sync(), call " + x.calls(), x.sync(), 228);
+        }
     }
 
     private static void writesOnly() {
@@ -120,5 +135,13 @@ public final class CallsTest {
             x.write(33, 0);
         }
         CHECK.due("place(0) moved 510 times by -8", x.place(0), 8 * 510 % 160);
+    }
+
+    private static void setsOnly() {
+        Beam x = new Beam();
+        while (x.calls() < Beam.MOST_CALLS) {
+            int calls = x.calls();
+            CHECK.due("set, call " + calls, x.set(calls & 3, calls * 7 & 255), calls == 0 ? 0 : (calls - 1) * 7 & 255);
+        }
     }
 }

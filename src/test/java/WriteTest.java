@@ -176,6 +176,9 @@ public final class WriteTest {
         }
         x.writes(23, 0x10, 33, 0);
         CHECK.due("a new motion", x.place(0), 159);
+        Beam oneByOne = Check.inUse().writes(23, 0, 24, 0, 25, 0, 26, 0, 27, 0);
+        CHECK.due("register 34 does as 0 in registers 23 .. 27, and no more",
+                Look.ahead(Check.inUse().writes(34, 0)), Look.ahead(oneByOne));
     }
 
     /** "at clocks 0 .. 67: 3 for a player, 2 for the others" */
@@ -260,8 +263,8 @@ public final class WriteTest {
             CHECK.due("placed in the lock", x.place(missile), 36);
             x.writes(25 + side, 0x30, 33, 0);
             CHECK.due("moved in the lock", x.place(missile), 33);
-            x.write(17 + side, 5);
-            CHECK.due("the copies alone move nothing", x.place(missile), 33);
+            x.writes(28 + side, 0, 17 + side, 5);
+            CHECK.due("player and copies alone move no missile", x.place(missile), 33);
             x.write(lock, 0);
             CHECK.due("the lock ends", x.place(missile), 45);
             x.writes(28 + side, 0, 33, 0, lock, 0);
@@ -279,6 +282,11 @@ public final class WriteTest {
         CHECK.due("0 and 1 have not met", x.met(0, 1), false);
         x.sync();
         CHECK.due("meetings, again", x.count(4), 3);
+        x = Check.inUse().writes(35, 0, 33, 0);
+        int[] due = {33, 78, 39, 91, 3};
+        for (int object = 0; object < 5; object++) {
+            CHECK.due("register 35 leaves motions and places alone", x.place(object), due[object]);
+        }
     }
 
     private static void onlyTheNamedBitsCount() {
