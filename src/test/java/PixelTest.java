@@ -6,6 +6,7 @@ public final class PixelTest {
     public static void main(String[] args) {
         noSuchPixel();
         whoHidesWhom();
+        everyColour();
         score();
         scoreAndTheBall();
         ahead();
@@ -68,6 +69,20 @@ public final class PixelTest {
                     CHECK.due("pixel(" + pixel + ") with objects " + objects + ", register 8 " + control,
                             drawn(objects, control, pixel), due);
                 }
+            }
+        }
+    }
+
+    /** "Its colour is that of its register": every value of each, shown by each object that has it. */
+    private static void everyColour() {
+        int[][] showing = {{9, 128}, {10, 128}, {19, 2}, {20, 2}, {13, 2}, {5, 16}, {}};
+        int[] registers = {2, 3, 2, 3, 1, 1, 0};
+        for (int object = 0; object < showing.length; object++) {
+            for (int v = 0; v < 256; v++) {
+                Beam x = Beam.written(0, 5, 1, 5, 2, 5, 3, 5).writes(showing[object]).writes(registers[object], v);
+                x.sync();
+                CHECK.due("object " + object + " in colour " + v, x.pixel(0), v);
+                CHECK.due("the background beside it", x.pixel(79), object == 6 ? v : 5);
             }
         }
     }

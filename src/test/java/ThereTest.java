@@ -9,6 +9,7 @@ public final class ThereTest {
         noSuchPixel();
         players();
         reversedPlayers();
+        everyShape();
         ball();
         playfield();
         playersGoRound();
@@ -78,6 +79,27 @@ public final class ThereTest {
             x.write(17 + player, 1);
             CHECK.isWhere("0xD0 reversed, a copy", x, player, "4 6-7 20 22-23");
         }
+    }
+
+    /** "eight bits of its shape .. bit 7 first (reversed: bit 0 first)", of the new one and of the old one. */
+    private static void everyShape() {
+        for (int player = 0; player < 2; player++) {
+            for (int shape = 0; shape < 256; shape++) {
+                shapeIs(player, shape, false);
+                shapeIs(player, shape, true);
+            }
+        }
+    }
+
+    private static void shapeIs(int player, int shape, boolean reversed) {
+        boolean[] due = new boolean[160];
+        for (int i = 0; i < 8; i++) {
+            due[i] = (shape >> (reversed ? i : 7 - i) & 1) != 0;
+        }
+        Beam x = Beam.written(9 + player, shape, 15 + player, reversed ? 8 : 0);
+        isAt("shape " + shape + ", reversed " + reversed, x, player, due);
+        x.writes(10 - player, 0, 9 + player, 255 - shape, 11 + player, 1);
+        isAt("old shape " + shape + ", reversed " + reversed, x, player, due);
     }
 
     /** "it is 1, 2, 4 or 8 pixels wide", without copies. */

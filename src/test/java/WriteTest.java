@@ -16,6 +16,7 @@ public final class WriteTest {
         motionsBecome0();
         placesAtClocks0To67();
         placesModulo160();
+        placesOnALaterLine();
         whateverIsWritten();
         locksEndAtThePlayer();
         onlyTheEndOfALockMoves();
@@ -199,6 +200,20 @@ public final class WriteTest {
             for (int object = 0; object < 5; object++) {
                 int due = x + (object < 2 ? 5 : 4);
                 onlyThisPlace(68 + x, object, due > 159 ? due - 160 : due);
+            }
+        }
+    }
+
+    private static void placesOnALaterLine() {
+        for (int clock = 0; clock < 228; clock++) {
+            Beam x = new Beam();
+            x.sync();
+            x.clocks(2 * 228 + clock);
+            x.writes(28, 0, 29, 0, 30, 0, 31, 0, 32, 0);
+            for (int object = 0; object < 5; object++) {
+                int late = object < 2 ? 1 : 0;
+                int due = clock < 68 ? 2 + late : (clock - 68 + 4 + late) % 160;
+                CHECK.due("place(" + object + ") at clock " + clock + " of line 3", x.place(object), due);
             }
         }
     }
